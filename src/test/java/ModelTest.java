@@ -47,6 +47,7 @@ public final class ModelTest {
     }
 
     private void run(int run) {
+        name = "run " + run;
         seed = run * 7919L + 17;
         style = run % 6;
         x = new WishedResistor();
@@ -60,11 +61,11 @@ public final class ModelTest {
             }
         }
         while (calls < CALLS) {
-            calls += step(run, CALLS - calls);
+            calls += step(CALLS - calls);
         }
     }
 
-    private int step(int run, int left) {
+    private int step(int left) {
         int dice = below(100);
         if (dice < 6) {
             return text(left);
@@ -79,14 +80,14 @@ public final class ModelTest {
             return 1;
         }
         if (style == 2 && dice < 40) {
-            one(in(TRAY, SHIFT), run);
+            one(in(TRAY, SHIFT));
             return 1;
         }
         int op = below(ALL);
         if ((op == SORT || op == BACK) && below(4) != 0) {
             op = JOIN;
         }
-        one(op, run);
+        one(op);
         return 1;
     }
 
@@ -141,7 +142,7 @@ public final class ModelTest {
         return below(3) == 0 ? near(0, 19) : near(0, 6);
     }
 
-    private void one(int op, int run) {
+    private void one(int op) {
         switch (op) {
             case 0: one(op, near(0, 3), near(0, 99), near(0, 50), 0, 0, 0); break;
             case 1: one(op, near(0, 3), near(0, 2), 0, 0, 0, 0); break;
@@ -176,7 +177,6 @@ public final class ModelTest {
             case 34: one(op, near(0, 2), place(), near(0, 2), place(), near(0, 5), 0); break;
             default: one(37, near(0, 5), 0, 0, 0, 0, 0); break;
         }
-        name = "run " + run;
     }
 
     private void one(int op, int p, int q, int r, int t, int u, int v) {

@@ -5,6 +5,7 @@ public final class WorthTest {
     public static void main(String[] args) {
         value();
         longValue();
+        edgeOfLong();
         ends();
         shortly();
         drawn();
@@ -65,8 +66,19 @@ public final class WorthTest {
         fraction("7 other ohms, not long", x, id, 144, 89);
     }
 
-    /** 1000000000 itself is not too long: 2 to the 9th times 5 to the 9th, or 1000 by 1000 pieces. */
+    /** 1000000001 by 6914766 is too long by just one, and no net below it is. */
     private static void edgeOfLong() {
+        WishedResistor y = Check.box(64, 25, 81, 49);
+        String left = "((a|b)+(d+(d|(a+b))))";
+        String right = "(c|(a+(a|(a+a))))";
+        fraction("7 left", y, Check.read(y, left), 1210747, 12282);
+        fraction("7 right", y, Check.read(y, right), 25920, 563);
+        fraction("7 one too many", y, Check.read(y, "(" + left + "+" + right + ")"), WishedResistor.LONG, WishedResistor.LONG);
+        ladders();
+    }
+
+    /** The model's numbers have no bound of their own, so every rung is asked of it. */
+    private static void ladders() {
         WishedResistor x = Check.box(32, 31, 64, 25);
         Model m = new Model();
         int[] ohms = {32, 31, 64, 25};
@@ -75,7 +87,6 @@ public final class WorthTest {
             m.part(i);
             x.part(i);
         }
-        // The model's numbers have no bound of their own, so every ladder is asked of it.
         int id = 0;
         for (int i = 0; i < 11; i++) {
             int mine = x.join(1 - i % 2, id, (i + 1) % 4);
