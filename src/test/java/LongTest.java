@@ -1,3 +1,5 @@
+import java.math.BigInteger;
+
 /** The edge of LONG: 1000000000 itself is taken, the next number is not; and what is LONG by a number below alone. */
 public final class LongTest {
     private static final Check CHECK = new Check("LongTest");
@@ -8,6 +10,7 @@ public final class LongTest {
         above();
         below();
         failingAbove();
+        inLowestTerms();
         belowAlone();
         besideShort();
         ofOther();
@@ -34,21 +37,42 @@ public final class LongTest {
         CHECK.due("12 itself " + text, x.alike(last(x), last(x)), above == LONG ? LONG : 1);
     }
 
-    /** The numbers in the notes are those of the value, were there no LONG. */
+    /** What the value would be, were there no LONG: above, below in lowest terms. */
+    private static BigInteger[] exact(WishedResistor x, int id) {
+        if (x.net(id, 0) == 0) {
+            return new BigInteger[] {BigInteger.valueOf(x.ofSort(x.net(id, 1), 0)), BigInteger.ONE};
+        }
+        BigInteger[] a = exact(x, x.net(id, 1));
+        BigInteger[] b = exact(x, x.net(id, 2));
+        BigInteger crosswise = a[0].multiply(b[1]).add(b[0].multiply(a[1]));
+        boolean isSeries = x.net(id, 0) == 1;
+        BigInteger above = isSeries ? crosswise : a[0].multiply(b[0]);
+        BigInteger below = isSeries ? a[1].multiply(b[1]) : crosswise;
+        BigInteger divisor = above.gcd(below);
+        return new BigInteger[] {above.divide(divisor), below.divide(divisor)};
+    }
+
+    /** LONG, though it would be these two, of which one is too long or neither. */
+    private static void tooLong(int[] ohms, String text, long above, long below) {
+        worth(ohms, text, LONG, LONG);
+        WishedResistor x = reads(ohms, text);
+        BigInteger[] exact = exact(x, last(x));
+        CHECK.due("7 it would be, above: " + text, exact[0].longValueExact(), above);
+        CHECK.due("7 it would be, below: " + text, exact[1].longValueExact(), below);
+    }
+
     private static void above() {
         worth(new int[] {87, 80, 97, 82}, "((b+(b|(b+(b|(b+d)))))+(b|(c+(d+(d|(b+c))))))", BILLION, 5271037);
         worth(new int[] {68, 16, 61, 25}, "((b|(b|(c|(c|(d|d)))))+((a+d)|(a+(a|(b+d)))))", BILLION, 19665879);
         worth(new int[] {50, 83, 14, 55}, "((c+(d+(b|(c+(b|d)))))+(c|((a+b)|(a+(a+d)))))", BILLION, 9029353);
-        // 1000000001 by 4921990, by 24285843.
-        worth(new int[] {51, 92, 2, 38}, "((b+(a|(b|(a+(c+d)))))+((a|a)+(b|(b+(b+c)))))", LONG, LONG);
-        worth(new int[] {52, 93, 8, 79}, "((a|(a+((a+a)|(b+c))))+(c|((a+c)|(b+(c|d)))))", LONG, LONG);
+        tooLong(new int[] {51, 92, 2, 38}, "((b+(a|(b|(a+(c+d)))))+((a|a)+(b|(b+(b+c)))))", BILLION + 1, 4921990);
+        tooLong(new int[] {52, 93, 8, 79}, "((a|(a+((a+a)|(b+c))))+(c|((a+c)|(b+(c|d)))))", BILLION + 1, 24285843);
     }
 
     private static void below() {
         worth(new int[] {1, 76, 93, 97}, "(a|((c+(d|(d|(b+b))))|(a+((d|d)+(a|(a|c))))))", 973039863, BILLION);
-        // 912423726 by 1000000001, 985279695 by 1000000001.
-        worth(new int[] {1, 17, 61, 18}, "(a|((d|(b+(d+d)))|((c|d)+(c|(c+(b|b))))))", LONG, LONG);
-        worth(new int[] {1, 49, 76, 78}, "(a|((c|(d|(c+(a|b))))+((b|b)+(b|(a+(b|b))))))", LONG, LONG);
+        tooLong(new int[] {1, 17, 61, 18}, "(a|((d|(b+(d+d)))|((c|d)+(c|(c+(b|b))))))", 912423726, BILLION + 1);
+        tooLong(new int[] {1, 49, 76, 78}, "(a|((c|(d|(c+(a|b))))+((b|b)+(b|(a+(b|b))))))", 985279695, BILLION + 1);
     }
 
     /** Eleven parts of which the value is known, and a twelfth that fails, so that just that value is left. */
@@ -74,16 +98,41 @@ public final class LongTest {
     private static void failingAbove() {
         left(new int[] {29, 17, 39, 84}, "((a+(c|(a+(b|c))))+(d|(b+((a|a)+(a|b)))))", BILLION, 12979313);
         left(new int[] {27, 80, 57, 84}, "((b+(b|(d|(a+b))))+(c|((b+b)|(a+(d+d)))))", BILLION, 6934581);
-        // 1000000001 by 18407989, by 39108801.
+        // These would be 1000000001 by 18407989, by 39108801.
         left(new int[] {24, 73, 10, 15}, "((c|(b+(a|(b+c))))+(d+((a+a)|(b+(a|d)))))", LONG, LONG);
         left(new int[] {13, 29, 71, 60}, "(((a|d)+(a|(d|d)))+(a|(a|(a+(d|(c+c))))))", LONG, LONG);
     }
 
+    /** The numbers ahead of lowest terms may be as great as they will. */
+    private static void inLowestTerms() {
+        String half = "((a|(b+(c|d)))+(a|b))";
+        WishedResistor x = reads(new int[] {97, 89, 83, 79}, half);
+        int id = last(x);
+        long above = x.value(id, 0);
+        long below = x.value(id, 1);
+        CHECK.due("7 great ahead of lowest terms", above * below * 2 > BILLION * 2 ? 1 : 0, 1);
+        long two = below % 2 == 0 ? 1 : 2;
+        int series = x.join(0, id, id);
+        CHECK.due("7 a series of both", x.value(series, 0), above * two);
+        CHECK.due("7 a series of both, below", x.value(series, 1), below * two / 2);
+        two = above % 2 == 0 ? 1 : 2;
+        int beside = x.join(1, id, id);
+        CHECK.due("7 both beside one another", x.value(beside, 0), above * two / 2);
+        CHECK.due("7 both beside one another, below", x.value(beside, 1), below * two);
+    }
+
     /** Each of these would have a value of short numbers, but for one below it that is LONG. */
     private static void belowAlone() {
-        worth(new int[] {99, 32, 49, 96}, "(c|(((d+(((c+a)+(c|((d|c)+(b+a))))|d))|d)|c))", LONG, LONG);
-        worth(new int[] {98, 63, 18, 12}, "(c|(c|(b+((a|((a+((c|(b|(d+b)))|a))+d))|d))))", LONG, LONG);
-        worth(new int[] {56, 87, 3, 62}, "((((d|((((a+d)|d)|a)+a))+c)|b)|c)", LONG, LONG);
+        tooLong(new int[] {99, 32, 49, 96}, "(c|(((d+(((c+a)+(c|((d|c)+(b+a))))|d))|d)|c))", 460725440, 26496819);
+        String[] texts = {"(c|(c|(b+((a|((a+((c|(b|(d+b)))|a))+d))|d))))", "((((d|((((a+d)|d)|a)+a))+c)|b)|c)"};
+        int[][] ohms = {{98, 63, 18, 12}, {56, 87, 3, 62}};
+        for (int i = 0; i < texts.length; i++) {
+            WishedResistor x = reads(ohms[i], texts[i]);
+            CHECK.due("7 LONG: " + texts[i], x.value(last(x), 0), LONG);
+            BigInteger[] exact = exact(x, last(x));
+            BigInteger greater = exact[0].max(exact[1]);
+            CHECK.due("7 it would be short: " + texts[i], greater.compareTo(BigInteger.valueOf(BILLION)) <= 0 ? 1 : 0, 1);
+        }
     }
 
     /** What is LONG stays so beside a 0 by 1, or in series with a 1 by 0. */
