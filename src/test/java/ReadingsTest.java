@@ -21,6 +21,7 @@ public final class ReadingsTest {
         otherSorts();
         byteByByte();
         thirteenth();
+        twelfth();
         faultFirst();
         readThere();
         tapeEmpty();
@@ -290,27 +291,26 @@ public final class ReadingsTest {
 
     /** A TEXT is looked at byte by byte: what can't stand there is the FAULT, whatever comes behind it. */
     private static void byteByByte() {
-        WishedResistor x = Check.box(10, 20, 0, 40);
         String[] beginnings = {"", "(", "(a", "(a+", "(a+b", "(a+b)", "a", "((a|b)", "((a|b)+", "((a|b)+d", "((a|b)+d)"};
         String[] goOn = {"(abd", "(abd", "+|", "(abd", ")", "", "", "+|", "(abd", ")", ""};
         for (int i = 0; i < beginnings.length; i++) {
             String begin = beginnings[i];
-            boolean isWhole = goOn[i].isEmpty();
             for (char letter = 32; letter <= 126; letter++) {
                 if (goOn[i].indexOf(letter) < 0) {
+                    WishedResistor x = Check.box(10, 20, 0, 40);
                     String behind = letter % 2 == 0 ? "+b)" : "";
                     CHECK.due("behind " + begin + ": " + letter, read(x, begin + letter + behind), -100 - begin.length());
+                    CHECK.due("nothing is kept", x.count(0), 0);
                 }
             }
-            CHECK.due("nothing is kept", x.count(0), 0);
-            if (!isWhole) {
+            if (!goOn[i].isEmpty()) {
+                WishedResistor x = Check.box(10, 20, 0, 40);
                 CHECK.due("too early an end: " + begin, read(x, begin), -100 - begin.length());
             }
-            x = Check.box(10, 20, 0, 40);
         }
     }
 
-    /** A 13th PART at its letter, a 12th open bracket at its place. */
+    /** A 13th PART at its letter. */
     private static void thirteenth() {
         WishedResistor x = Check.box(10, 20);
         String twelve = "((((a+b)+(a+b))+((a+b)+(a+b)))+((a+b)+(a+b)))";
@@ -320,10 +320,16 @@ public final class ReadingsTest {
         String[] behind = {"a", "a)", "ax", "c", "((a", "((c", "((+"};
         int[] fault = {0, 0, 0, 0, 2, 2, 2};
         for (int i = 0; i < behind.length; i++) {
+            x = Check.box(10, 20);
             CHECK.due("a 13th: " + behind[i], read(x, "(" + twelve + "+" + behind[i]), -100 - length - 2 - fault[i]);
         }
-        CHECK.due("an end ahead of a 13th", read(x, "(" + twelve + "+"), -100 - length - 2);
-        CHECK.due("an end behind brackets", read(x, "(" + twelve + "+(("), -100 - length - 4);
+        CHECK.due("an end ahead of a 13th", read(Check.box(10, 20), "(" + twelve + "+"), -100 - length - 2);
+        CHECK.due("an end behind brackets", read(Check.box(10, 20), "(" + twelve + "+(("), -100 - length - 4);
+    }
+
+    /** A 12th open bracket at its place. */
+    private static void twelfth() {
+        WishedResistor x = Check.box(10, 20);
         String eleven = "(((((((((((";
         CHECK.due("a 12th open", read(x, eleven + "(a"), -111);
         CHECK.due("eleven open", read(x, eleven + "a"), -112);
@@ -352,9 +358,10 @@ public final class ReadingsTest {
     private static void readThere() {
         WishedResistor x = new WishedResistor();
         World.full(x);
-        for (int id = 0; id < 40; id++) {
-            CHECK.due("there", read(x, id == 0 ? "a" : id == 1 ? "(a+a)" : id == 12 ? "b" : id == 13 ? "(a|a)" : "((a+a)+a)"),
-                id == 0 || id == 1 || id == 12 || id == 13 ? id : 2);
+        String[] texts = {"a", "(a+a)", "((a+a)+a)", "b", "(a|a)", "((a+a)|a)"};
+        int[] ids = {0, 1, 2, 12, 13, 14};
+        for (int i = 0; i < texts.length; i++) {
+            CHECK.due("there: " + texts[i], read(x, texts[i]), ids[i]);
         }
         CHECK.due("a new one of what is there", read(x, "(a+b)"), FULL);
         CHECK.due("nets", x.count(0), 40);
