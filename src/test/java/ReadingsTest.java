@@ -30,8 +30,11 @@ public final class ReadingsTest {
         likeOhms();
         asTheyCame();
         notByFewer();
+        boxAsItIs();
+        inAnyOrder();
         noneAsALong();
         likeNear();
+        nearestOfGreat();
         madeSo();
         pointsAnew();
         severalEdges();
@@ -485,6 +488,62 @@ public final class ReadingsTest {
         CHECK.due("in all", x.reached(1) + x.reached(2) + x.reached(3) + x.reached(4), x.count(5));
     }
 
+    private static Model model(int... ohms) {
+        Model m = new Model();
+        for (int sort = 0; sort < 4; sort++) {
+            m.sort(sort, ohms[sort], 0);
+        }
+        return m;
+    }
+
+    private static void rows(String name, WishedResistor x, Model m, int n) {
+        CHECK.due(name + ": by " + n, x.reached(n), m.reached(n));
+        for (int k = 0; k < 6; k++) {
+            for (int what = 0; what < 3; what++) {
+                CHECK.due(name + ": by " + n + ", the " + k, x.reach(n, k, what), m.reach(n, k, what));
+            }
+        }
+    }
+
+    /** By THE BOX as it is: each time one of its sorts has other OHMS, or all have. */
+    private static void boxAsItIs() {
+        WishedResistor x = new WishedResistor();
+        int[][] boxes = {{10, 0, 33, 7}, {11, 20, 5, 80}, {80, 5, 20, 11}, {80, 5, 20, 12}, {80, 5, 99, 12}, {80, 6, 99, 12},
+            {1, 6, 99, 12}, {0, 0, 0, 3}, {7, 0, 0, 0}, {0, 0, 0, 0}};
+        for (int[] box : boxes) {
+            for (int sort = 0; sort < 4; sort++) {
+                x.sort(sort, box[sort], sort);
+            }
+            rows("the box as it is", x, model(box), 2);
+            CHECK.due("all of the box as it is", x.count(5), model(box).count(5));
+        }
+        WishedResistor y = Check.box(10, 20, 33, 7);
+        y.image();
+        for (int sort = 0; sort < 4; sort++) {
+            y.sort(sort, 50 + sort, 0);
+        }
+        rows("another box", y, model(50, 51, 52, 53), 3);
+        y.back();
+        rows("the box as it was", y, model(10, 20, 33, 7), 3);
+        CHECK.due("a wish by the box as it was", y.fewest(43, 1), 2);
+    }
+
+    /** Whichever n is asked for first, and again. */
+    private static void inAnyOrder() {
+        int[][] orders = {{4, 3, 2, 1}, {1, 2, 3, 4}, {2, 1, 4, 3}, {3, 1, 3, 2}, {2, 1, 2, 1}};
+        int[] ohms = {64, 99, 5, 17};
+        for (int[] order : orders) {
+            WishedResistor x = Check.box(ohms);
+            Model m = model(ohms);
+            for (int n : order) {
+                rows("in any order", x, m, n);
+            }
+            for (int n : order) {
+                rows("in any order, again", x, m, n);
+            }
+        }
+    }
+
     /** reach(), nearest(): -2 as a long where there is none. */
     private static void noneAsALong() {
         WishedResistor x = new WishedResistor();
@@ -524,6 +583,23 @@ public final class ReadingsTest {
         near(Check.box(30, 11, 10, 21), 31, 2, 1, 11, 1, 1);
         near(Check.box(21, 10, 20, 11), 31, 2, 1, 11, 1, 1);
         near(Check.box(21, 10), 31, 2, 1, 10, 1, 1);
+    }
+
+    /** Values whose numbers are great, and wishes of which both are. */
+    private static void nearestOfGreat() {
+        int[] ohms = {97, 89, 83, 79};
+        Model m = model(ohms);
+        int[][] wishes = {{999, 998}, {998, 999}, {997, 101}, {999, 47}, {999, 41}, {983, 39}, {999, 31}, {541, 20}, {991, 45}, {1, 999},
+            {999, 13}, {967, 11}, {999, 10}, {997, 4}, {907, 42}, {952, 44}};
+        for (int[] wish : wishes) {
+            WishedResistor x = Check.box(ohms);
+            for (int n = 1; n <= 4; n++) {
+                String name = "nearest to " + wish[0] + " by " + wish[1] + " of up to " + n;
+                for (int what = 0; what < 3; what++) {
+                    CHECK.due(name, x.nearest(wish[0], wish[1], n, what), m.nearest(wish[0], wish[1], n, what));
+                }
+            }
+        }
     }
 
     /** REACHED by n: for k from 1 to n by 2 (cut), x by k, y by n less k, first the SERIES, then the BESIDE. */
